@@ -88,6 +88,7 @@ public final class ModelRuns {
         return v;
     }
 
+    /** Draws calls that can succeed, as three diagnostics end a session before much has happened. */
     private static void aimAtSet(Random random, int call, Model.Session s, int[] v) {
         if ((call == 6 || call == 9) && !s.sets.isEmpty()) {
             v[1] = new ArrayList<>(s.sets.keySet()).get(random.nextInt(s.sets.size()));
